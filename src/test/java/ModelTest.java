@@ -19,6 +19,9 @@ public final class ModelTest {
     private long seed;
     private Leavebank book;
     private Model model;
+    /** So that a run reaches the limits of one kind of call, or those of one person. */
+    private final int favourite;
+    private final int people;
 
     public static void main(String[] args) {
         for (int run = 0; run < RUNS; run++) {
@@ -34,6 +37,8 @@ public final class ModelTest {
         seed = run * 7919L + 17;
         book = new Leavebank();
         model = new Model();
+        favourite = below(22);
+        people = 1 + below(10);
     }
 
     private int below(int bound) {
@@ -46,6 +51,9 @@ public final class ModelTest {
         int spread = below(4) == 0 ? 3600 : 200;
         for (int call = 0; call < CALLS; call++) {
             int[] row = row(isLong, spread);
+            if (row[0] == 0 && model.persons.size() >= people) {
+                continue;
+            }
             String due = answer(model, row);
             String got = answer(book, row);
             if (!due.equals(got)) {
@@ -75,7 +83,7 @@ public final class ModelTest {
         int first = anyDay(spread);
         int length = below(6) == 0 ? below(spread) : below(12);
         int last = first + (below(30) == 0 ? -1 : length);
-        switch (below(22)) {
+        switch (below(4) == 0 ? favourite : below(22)) {
             case 0: return new int[] {0, 19 + below(below(9) == 0 ? 70 : 62), below(12)};
             case 1: return new int[] {1, person, first, below(12)};
             case 2: return new int[] {2, person, first, last, below(2)};
